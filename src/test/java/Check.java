@@ -1,0 +1,34 @@
+/** Counts the calls whose answers are not due, and types texts. */
+final class Check {
+    private static int wrong = 0;
+
+    private Check() {
+    }
+
+    static void due(String call, long got, long want) {
+        if (got != want) {
+            wrong++;
+            System.out.println(call + " answered " + got + ", due is " + want);
+        }
+    }
+
+    /** Puts a text in place of the one that is there. */
+    static void write(CycleTimetable x, String text) {
+        x.clearText();
+        for (int i = 0; i < text.length(); i++) {
+            x.type(text.charAt(i));
+        }
+    }
+
+    static int read(CycleTimetable x, String text) {
+        write(x, text);
+        return x.readPlacings();
+    }
+
+    static void end() {
+        if (wrong != 0) {
+            System.out.println(wrong + " answers are not as due");
+            System.exit(1);
+        }
+    }
+}
