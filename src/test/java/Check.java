@@ -25,6 +25,11 @@ final class Check {
         return x.readPlacings();
     }
 
+    /** The first numbers on both sides that are not from least to most, and the last ones there are. */
+    static int[] outside(int least, int most) {
+        return new int[] {least - 1, most + 1, Integer.MIN_VALUE, Integer.MAX_VALUE};
+    }
+
     static void end() {
         if (wrong != 0) {
             System.out.println(wrong + " answers are not as due");
