@@ -25,9 +25,13 @@ final class Check {
         return x.readPlacings();
     }
 
-    /** The first numbers on both sides that are not from least to most, and the last ones there are. */
+    /**
+     * The first numbers on both sides that are not from least to most, the last
+     * ones there are, and some that have the low bits of the least.
+     */
     static int[] outside(int least, int most) {
-        return new int[] {least - 1, most + 1, Integer.MIN_VALUE, Integer.MAX_VALUE};
+        return new int[] {least - 1, most + 1, Integer.MIN_VALUE, Integer.MAX_VALUE,
+            least + 1024, least + 65536, least - 65536};
     }
 
     static void end() {

@@ -321,6 +321,7 @@ public final class CycleBoundsTest {
     }
 
     private static void holidaysHaveNoDay() {
+        refused("30: a holiday", -5, x -> x.dayOf(2));
         for (int date : new int[] {0, 5, 6, 31, 32, 63, 64, 399}) {
             CycleTimetable x = new CycleTimetable();
             x.holiday(date, true);
@@ -395,6 +396,8 @@ public final class CycleBoundsTest {
     }
 
     private static void nextDateEndsAt399() {
+        refused("31: the last date", 399, x -> x.nextDate(397, 2));
+        refused("31: none up to 399", -5, x -> x.nextDate(399, 0));
         CycleTimetable x = new CycleTimetable();
         Check.due("31: the last date", x.nextDate(394, 3), 399);
         Check.due("31: the date before", x.nextDate(393, 2), 398);

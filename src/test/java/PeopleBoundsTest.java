@@ -38,6 +38,7 @@ public final class PeopleBoundsTest {
         barOfTheSlotsAround();
         barAsItIs();
         barOfAllSlots();
+        barIsUndone();
         Check.end();
     }
 
@@ -421,5 +422,18 @@ public final class PeopleBoundsTest {
         }
         Check.due("9: none is left", x.teacher(0, 4), 0);
         Check.due("9: lessons can be placed", x.fill(0), 10);
+    }
+
+    private static void barIsUndone() {
+        CycleTimetable x = Schools.busy();
+        Check.due("9: bar", x.bar(2, 0, true), 1);
+        Check.due("9: no bar", x.bar(0, 8, false), 0);
+        Check.due("9: four states", x.count(9), 4);
+        x.undo();
+        Check.due("9: barred again", x.reason(0, 8, 0), 3);
+        x.undo();
+        Check.due("9: not barred any more", x.reason(2, 0, 2), 0);
+        x.undo();
+        Check.due("9: the lesson before it", x.count(6), 2);
     }
 }

@@ -15,6 +15,7 @@ public final class ReasonsBoundsTest {
         fortyLessonsOfACycle();
         differentHalves();
         joinedGroups();
+        halvesOfAllGroups();
         roomIsTaken();
         allOfTheEquipment();
         earlierReasonsGoFirst();
@@ -223,6 +224,40 @@ public final class ReasonsBoundsTest {
         y.place(2, 4, 0);
         Check.due("21: both are joined with one group", y.reason(1, 4, 1), 7);
         Check.due("21: its group is joined", y.reason(4, 4, 1), 7);
+    }
+
+    /** Of all eight groups, each half is busy for itself. */
+    private static void halvesOfAllGroups() {
+        for (int group = 0; group < 8; group++) {
+            CycleTimetable x = eightGroups();
+            x.addCourse(group, 1, 0, 0, 5);
+            x.addCourse(group, 2, 1, 0, 5);
+            x.addCourse(group, 0, 1, 0, 5);
+            x.place(0, 7, 0);
+            Check.due("21: the other half of group " + group, x.reason(1, 7, 1), 0);
+            Check.due("21: the whole group " + group, x.reason(2, 7, 1), 7);
+            Check.due("28: half 1 of group " + group, x.group(group, 1, 0), 1);
+            Check.due("28: half 2 of group " + group, x.group(group, 2, 0), 0);
+            for (int other = 0; other < 8; other++) {
+                if (other != group) {
+                    x.addCourse(other, 0, 1, 0, 1);
+                    Check.due("21: group " + other, x.reason(x.count(5) - 1, 7, 1), 0);
+                    Check.due("28: group " + other, x.group(other, 1, 0) + x.group(other, 2, 0), 0);
+                }
+            }
+        }
+    }
+
+    private static CycleTimetable eightGroups() {
+        CycleTimetable x = new CycleTimetable();
+        for (int group = 0; group < 8; group++) {
+            x.addGroup();
+        }
+        x.addTeacher(40, 6);
+        x.addTeacher(40, 6);
+        x.addRoom(0);
+        x.addRoom(0);
+        return x;
     }
 
     private static void roomIsTaken() {
