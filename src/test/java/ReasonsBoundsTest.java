@@ -229,21 +229,29 @@ public final class ReasonsBoundsTest {
     /** Of all eight groups, each half is busy for itself. */
     private static void halvesOfAllGroups() {
         for (int group = 0; group < 8; group++) {
-            CycleTimetable x = eightGroups();
-            x.addCourse(group, 1, 0, 0, 5);
-            x.addCourse(group, 2, 1, 0, 5);
-            x.addCourse(group, 0, 1, 0, 5);
-            x.place(0, 7, 0);
-            Check.due("21: the other half of group " + group, x.reason(1, 7, 1), 0);
-            Check.due("21: the whole group " + group, x.reason(2, 7, 1), 7);
-            Check.due("28: half 1 of group " + group, x.group(group, 1, 0), 1);
-            Check.due("28: half 2 of group " + group, x.group(group, 2, 0), 0);
-            for (int other = 0; other < 8; other++) {
-                if (other != group) {
-                    x.addCourse(other, 0, 1, 0, 1);
-                    Check.due("21: group " + other, x.reason(x.count(5) - 1, 7, 1), 0);
-                    Check.due("28: group " + other, x.group(other, 1, 0) + x.group(other, 2, 0), 0);
-                }
+            for (int half = 1; half <= 2; half++) {
+                halfOfAGroup(group, half);
+            }
+        }
+    }
+
+    private static void halfOfAGroup(int group, int half) {
+        CycleTimetable x = eightGroups();
+        x.addCourse(group, half, 0, 0, 5);
+        x.addCourse(group, 3 - half, 1, 0, 5);
+        x.addCourse(group, half, 1, 0, 5);
+        x.addCourse(group, 0, 1, 0, 5);
+        x.place(0, 7, 0);
+        Check.due("21: the other half of group " + group, x.reason(1, 7, 1), 0);
+        Check.due("21: half " + half + " of group " + group, x.reason(2, 7, 1), 7);
+        Check.due("21: the whole group " + group, x.reason(3, 7, 1), 7);
+        Check.due("28: this half of group " + group, x.group(group, half, 0), 1);
+        Check.due("28: the other half of group " + group, x.group(group, 3 - half, 0), 0);
+        for (int other = 0; other < 8; other++) {
+            if (other != group) {
+                x.addCourse(other, 0, 1, 0, 1);
+                Check.due("21: group " + other, x.reason(x.count(5) - 1, 7, 1), 0);
+                Check.due("28: group " + other, x.group(other, 1, 0) + x.group(other, 2, 0), 0);
             }
         }
     }
