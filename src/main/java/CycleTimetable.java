@@ -617,7 +617,7 @@ public final class CycleTimetable {
 
         int get(int row, int column) {
             int index = row * width + column;
-            if (!isIn(column, 0, width - 1) || index < 0 || index >= cells.length) {
+            if (column < 0 || column >= width || index < 0 || index >= cells.length) {
                 return 0;
             }
             return cells[index];
@@ -625,7 +625,7 @@ public final class CycleTimetable {
 
         void set(int row, int column, int value) {
             int index = row * width + column;
-            if (isIn(column, 0, width - 1) && index >= 0 && index < cells.length) {
+            if (column >= 0 && column < width && index >= 0 && index < cells.length) {
                 cells[index] = value;
             }
         }
@@ -645,7 +645,7 @@ public final class CycleTimetable {
         }
 
         boolean has(int row, int member) {
-            return sizeWithin(row, member, 1) > 0;
+            return row >= 0 && row < rows.length && (rows[row] >>> member & 1) != 0;
         }
 
         int size(int row) {
