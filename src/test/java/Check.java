@@ -1,4 +1,4 @@
-/** Counts the calls whose answers are not due, and types texts. */
+/** Counts what is not as due, answers of calls above all, and types texts. */
 final class Check {
     private static int wrong = 0;
 
@@ -9,6 +9,13 @@ final class Check {
         if (got != want) {
             wrong++;
             System.out.println(call + " answered " + got + ", due is " + want);
+        }
+    }
+
+    static void must(boolean holds, String what) {
+        if (!holds) {
+            wrong++;
+            System.out.println(what);
         }
     }
 
@@ -36,7 +43,7 @@ final class Check {
 
     static void end() {
         if (wrong != 0) {
-            System.out.println(wrong + " answers are not as due");
+            System.out.println(wrong + " things are not as due");
             System.exit(1);
         }
     }

@@ -27,49 +27,38 @@ public final class LanguageTest {
         "System.out", "currentTimeMillis", "nanoTime", "Random", "Thread", "float", "double"};
     private static final int MOST_LINES = 60;
 
-    private static int wrong = 0;
-
     public static void main(String[] args) throws IOException {
         face();
         insides();
         words();
-        if (wrong > 0) {
-            System.exit(1);
-        }
-    }
-
-    private static void must(boolean holds, String what) {
-        if (!holds) {
-            wrong++;
-            System.out.println(what);
-        }
+        Check.end();
     }
 
     private static void face() {
         Class<?> c = CycleTimetable.class;
-        must(Modifier.isPublic(c.getModifiers()) && Modifier.isFinal(c.getModifiers()), "class is not public final");
+        Check.must(Modifier.isPublic(c.getModifiers()) && Modifier.isFinal(c.getModifiers()), "class is not public final");
         Constructor<?>[] constructors = c.getDeclaredConstructors();
-        must(constructors.length == 1 && Modifier.isPublic(constructors[0].getModifiers())
+        Check.must(constructors.length == 1 && Modifier.isPublic(constructors[0].getModifiers())
                 && constructors[0].getParameterCount() == 0, "constructor");
         Set<String> names = new TreeSet<>();
         Set<String> faces = new TreeSet<>(Arrays.asList(FACE));
         for (Method m : c.getDeclaredMethods()) {
             String name = m.toString().replaceAll(".*CycleTimetable\\.", "");
             if (Modifier.isPrivate(m.getModifiers())) {
-                must(FACE.length > 0 && !isPublicName(m.getName()), "a private method is named " + m.getName());
+                Check.must(!isPublicName(m.getName()), "a private method is named " + m.getName());
             } else {
-                must(m.getReturnType() == int.class && Modifier.isPublic(m.getModifiers()), "not an int: " + m);
+                Check.must(m.getReturnType() == int.class && Modifier.isPublic(m.getModifiers()), "not an int: " + m);
                 names.add(name);
             }
         }
-        must(names.equals(faces), "the face is " + names);
+        Check.must(names.equals(faces), "the face is " + names);
         for (int i = 0; i < CONSTANTS.length; i++) {
             constant(CONSTANTS[i], -1 - i);
         }
         for (Field f : c.getDeclaredFields()) {
             boolean isConstant = Arrays.asList(CONSTANTS).contains(f.getName());
-            must(isConstant || Modifier.isPrivate(f.getModifiers()), "not private: " + f);
-            must(!Modifier.isStatic(f.getModifiers()) || Modifier.isFinal(f.getModifiers()), "static state: " + f);
+            Check.must(isConstant || Modifier.isPrivate(f.getModifiers()), "not private: " + f);
+            Check.must(!Modifier.isStatic(f.getModifiers()) || Modifier.isFinal(f.getModifiers()), "static state: " + f);
         }
     }
 
@@ -81,40 +70,40 @@ public final class LanguageTest {
         try {
             Field f = CycleTimetable.class.getField(name);
             int wanted = Modifier.PUBLIC | Modifier.STATIC | Modifier.FINAL;
-            must(f.getModifiers() == wanted && f.getType() == int.class && f.getInt(null) == due, "constant " + name);
+            Check.must(f.getModifiers() == wanted && f.getType() == int.class && f.getInt(null) == due, "constant " + name);
         } catch (ReflectiveOperationException e) {
-            must(false, "no constant " + name);
+            Check.must(false, "no constant " + name);
         }
     }
 
     private static void insides() {
         Class<?>[] inside = CycleTimetable.class.getDeclaredClasses();
-        must(inside.length <= 11, "too many classes");
+        Check.must(inside.length <= 11, "too many classes");
         for (Class<?> c : inside) {
-            must(Modifier.isStatic(c.getModifiers()) && !Modifier.isPublic(c.getModifiers()), "class " + c);
-            must(c.getDeclaredFields().length <= 20, "too many fields in " + c);
+            Check.must(Modifier.isStatic(c.getModifiers()) && !Modifier.isPublic(c.getModifiers()), "class " + c);
+            Check.must(c.getDeclaredFields().length <= 20, "too many fields in " + c);
             for (Method m : c.getDeclaredMethods()) {
-                must(!isPublicName(m.getName()), c + " has a method of the name " + m.getName());
-                must(m.getParameterCount() <= 7, "too many parameters: " + m);
+                Check.must(!isPublicName(m.getName()), c + " has a method of the name " + m.getName());
+                Check.must(m.getParameterCount() <= 7, "too many parameters: " + m);
             }
         }
     }
 
     private static void words() throws IOException {
         String source = Files.readString(Path.of("src/main/java/CycleTimetable.java"));
-        must(source.chars().allMatch(c -> c < 128), "a sign that is not ASCII");
+        Check.must(source.chars().allMatch(c -> c < 128), "a sign that is not ASCII");
         String code = source.replaceAll("(?s)/\\*.*?\\*/", "").replaceAll("//[^\n]*", "");
         for (String word : FORBIDDEN) {
             String edge = Character.isLetter(word.charAt(0)) ? "\\b" : "";
-            must(!Pattern.compile(edge + Pattern.quote(word) + edge).matcher(code).find(), "forbidden: " + word);
+            Check.must(!Pattern.compile(edge + Pattern.quote(word) + edge).matcher(code).find(), "forbidden: " + word);
         }
         // Bodies of methods end with a brace at the depth of their heads.
         Matcher method = Pattern.compile("(?ms)^( {4}| {8})(?!private static final class)[a-z][^;{}=]*\\) \\{\n.*?^\\1\\}").matcher(code);
         int methods = 0;
         while (method.find()) {
             methods++;
-            must(method.group().lines().count() <= MOST_LINES, "long: " + method.group().lines().findFirst().get());
+            Check.must(method.group().lines().count() <= MOST_LINES, "long: " + method.group().lines().findFirst().get());
         }
-        must(methods > 60, "only " + methods + " methods were seen");
+        Check.must(methods > 60, "only " + methods + " methods were seen");
     }
 }

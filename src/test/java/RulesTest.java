@@ -61,8 +61,6 @@ public final class RulesTest extends TreePathScanner<Void, Void> {
             Tree.Kind.TYPE_CAST, Tree.Kind.WHILE_LOOP, Tree.Kind.DO_WHILE_LOOP, Tree.Kind.STRING_LITERAL,
             Tree.Kind.DOUBLE_LITERAL, Tree.Kind.FLOAT_LITERAL);
 
-    private static int wrong = 0;
-
     private final Trees trees;
     private final SourcePositions positions;
     private final CompilationUnitTree unit;
@@ -88,20 +86,11 @@ public final class RulesTest extends TreePathScanner<Void, Void> {
             rules.scan(unit, null);
             rules.callsGoNotTooDeep();
         }
-        if (wrong > 0) {
-            System.exit(1);
-        }
-    }
-
-    private static void must(boolean holds, String what) {
-        if (!holds) {
-            wrong++;
-            System.out.println(what);
-        }
+        Check.end();
     }
 
     private void must(boolean holds, Tree where, String what) {
-        must(holds, "line " + lines.getLineNumber(positions.getStartPosition(unit, where)) + ": " + what);
+        Check.must(holds, "line " + lines.getLineNumber(positions.getStartPosition(unit, where)) + ": " + what);
     }
 
     @Override
@@ -200,10 +189,10 @@ public final class RulesTest extends TreePathScanner<Void, Void> {
     }
 
     private void callsGoNotTooDeep() {
-        must(calls.size() > 80, "only " + calls.size() + " methods were seen");
+        Check.must(calls.size() > 80, "only " + calls.size() + " methods were seen");
         for (Element method : calls.keySet()) {
             List<Element> chain = deepest(method, new ArrayList<>());
-            must(chain.size() <= MOST_DEEP, chain.size() + " deep: " + chain);
+            Check.must(chain.size() <= MOST_DEEP, chain.size() + " deep: " + chain);
         }
     }
 
@@ -211,7 +200,7 @@ public final class RulesTest extends TreePathScanner<Void, Void> {
     private List<Element> deepest(Element method, List<Element> open) {
         List<Element> longest = new ArrayList<>();
         if (open.contains(method)) {
-            must(false, "recursion: " + open);
+            Check.must(false, "recursion: " + open);
             return longest;
         }
         open.add(method);
